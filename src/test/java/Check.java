@@ -1,0 +1,60 @@
+/** Counts and prints the answers that are not as due; each test ends with close(). */
+final class Check {
+    private int wrong;
+    private String part = "";
+
+    interface Call {
+        void run();
+    }
+
+    void part(String name) {
+        part = name;
+    }
+
+    void same(String what, long got, long due) {
+        if (got != due) {
+            wrong++;
+            System.out.println(part + ": " + what + " answered " + got + ", due is " + due);
+        }
+    }
+
+    void so(String what, boolean got) {
+        same(what, got ? 1 : 0, 1);
+    }
+
+    void throwsNothing(String what, Call call) {
+        checkThrown(what, call, "nothing");
+    }
+
+    void throwsIndex(String what, Call call) {
+        checkThrown(what, call, "IndexOutOfBoundsException");
+    }
+
+    void throwsArgument(String what, Call call) {
+        checkThrown(what, call, "IllegalArgumentException");
+    }
+
+    void throwsState(String what, Call call) {
+        checkThrown(what, call, "IllegalStateException");
+    }
+
+    private void checkThrown(String what, Call call, String due) {
+        String thrown = "nothing";
+        try {
+            call.run();
+        } catch (RuntimeException e) {
+            thrown = e.getClass().getSimpleName();
+        }
+        if (!thrown.equals(due)) {
+            wrong++;
+            System.out.println(part + ": " + what + " throws " + thrown + ", due is " + due);
+        }
+    }
+
+    void close() {
+        System.out.println(wrong == 0 ? "all answers are as due" : wrong + " answers are not as due");
+        if (wrong != 0) {
+            System.exit(1);
+        }
+    }
+}
