@@ -11,6 +11,7 @@ public final class PlanJudge {
     private static final int MOST_NEEDS = 8;
     private static final int MOST_CHANGES = 6;
     private static final int MOST_EVENTS = 6;
+    private static final int FIRST_ENDING = 12;
     private static final int MOST_UP = 100000;
     private static final int MOST_DOWN = 1000;
     private static final long LONGEST = 1000000000L;
@@ -53,7 +54,7 @@ public final class PlanJudge {
     private static final int NO_TIMES = 7;
     private static final int BOUNDS_UNFIT = 8;
 
-    /** Far above the some ninety divisions that Euclid's way can need for two longs. */
+    /** Far above the some ninety divisions that Euclid's way needs for two longs. */
     private static final int EUCLID_ROUNDS = 200;
 
     private final Fractions hand;
@@ -289,30 +290,22 @@ public final class PlanJudge {
         if (events <= 0) {
             return row.findLateFault(task) == FINE;
         }
-        if (row.openSteps() + 2 <= events) {
-            for (int a = 0; a < task.actions.size(); a++) {
-                if (completesWith(task, row, events, 2 * row.begunSteps, a)) {
-                    return true;
+        int begun = row.begunSteps;
+        boolean mayBegin = row.openSteps() + 2 <= events;
+        for (int event = mayBegin ? 0 : FIRST_ENDING; event < FIRST_ENDING + begun; event++) {
+            boolean begins = event < FIRST_ENDING;
+            int step = begins ? begun : event - FIRST_ENDING;
+            if (begins ? event < task.actions.size() : row.isOpen(step)) {
+                int point = begins ? 2 * step : 2 * step + 1;
+                int done = begins ? event : row.actionOf[step];
+                if (row.addPoint(task, point, done) == FINE) {
+                    if (completes(task, row, events - 1)) {
+                        return true;
+                    }
+                    row.takePointBack();
                 }
             }
         }
-        int begun = row.begunSteps;
-        for (int s = 0; s < begun; s++) {
-            if (row.isOpen(s) && completesWith(task, row, events, 2 * s + 1, row.actionOf[s])) {
-                return true;
-            }
-        }
-        return false;
-    }
-
-    private static boolean completesWith(Task task, Arranger row, int events, int point, int a) {
-        if (row.addPoint(task, point, a) != FINE) {
-            return false;
-        }
-        if (completes(task, row, events - 1)) {
-            return true;
-        }
-        row.takePointBack();
         return false;
     }
 
@@ -376,7 +369,13 @@ public final class PlanJudge {
         }
 
         void put(int i, long p, long q) {
-            long divisor = greatestDivisor(p < 0 ? -p : p, q);
+            long divisor = q;
+            long rest = p < 0 ? -p : p;
+            for (int k = 0; k < EUCLID_ROUNDS && rest != 0; k++) {
+                long next = divisor % rest;
+                divisor = rest;
+                rest = next;
+            }
             up[i] = divisor > 1 ? p / divisor : p;
             down[i] = divisor > 1 ? q / divisor : q;
         }
@@ -391,19 +390,25 @@ public final class PlanJudge {
             System.arraycopy(from.down, 0, down, 0, down.length);
         }
 
-        // Numbers stay below 10^9, what the caller tells below 10^5 over 10^3, and times have
-        // denominators of at most 10^6: no product or sum below leaves a long.
-
-        void add(int i, Fractions by, int j) {
-            put(i, up[i] * by.down[j] + by.up[j] * down[i], down[i] * by.down[j]);
-        }
-
-        void subtract(int i, Fractions by, int j) {
-            put(i, up[i] * by.down[j] - by.up[j] * down[i], down[i] * by.down[j]);
-        }
-
-        void multiply(int i, Fractions by, int j) {
-            put(i, up[i] * by.up[j], down[i] * by.down[j]);
+        /**
+         * No product or sum leaves a long: numbers have parts of at most 10^9, what is told has at most
+         * 10^5 over 10^3, and times stay below 10^6 with denominators of at most 10^6.
+         */
+        void alter(int i, int way, Fractions by, int j) {
+            switch (way) {
+                case BECOMES:
+                    copy(i, by, j);
+                    break;
+                case GROWS:
+                    put(i, up[i] * by.down[j] + by.up[j] * down[i], down[i] * by.down[j]);
+                    break;
+                case SHRINKS:
+                    put(i, up[i] * by.down[j] - by.up[j] * down[i], down[i] * by.down[j]);
+                    break;
+                default:
+                    put(i, up[i] * by.up[j], down[i] * by.down[j]);
+                    break;
+            }
         }
 
         boolean isTooLong(int i) {
@@ -414,58 +419,8 @@ public final class PlanJudge {
             return up[i] > whole * down[i];
         }
 
-        int order(int i, Fractions other, int j) {
-            return orderOf(up[i], down[i], other.up[j], other.down[j]);
-        }
-
-        /** By Euclid's way: bounds and durations are too long to be multiplied crosswise. */
-        private static int orderOf(long a, long b, long c, long d) {
-            int sign = 1;
-            for (int k = 0; k < EUCLID_ROUNDS && b > 0 && d > 0; k++) {
-                long x = Math.floorDiv(a, b);
-                long y = Math.floorDiv(c, d);
-                if (x != y) {
-                    return x < y ? -sign : sign;
-                }
-                long restOfFirst = a - x * b;
-                long restOfSecond = c - y * d;
-                if (restOfFirst == 0 || restOfSecond == 0) {
-                    return restOfFirst == restOfSecond ? 0 : restOfFirst == 0 ? -sign : sign;
-                }
-                a = b;
-                b = restOfFirst;
-                c = d;
-                d = restOfSecond;
-                sign = -sign;
-            }
-            return 0;
-        }
-
-        static long greatestDivisor(long a, long b) {
-            for (int k = 0; k < EUCLID_ROUNDS && b != 0; k++) {
-                long rest = a % b;
-                a = b;
-                b = rest;
-            }
-            return a;
-        }
-    }
-
-    private static final class State {
-        private int facts;
-        private final Fractions numbers = new Fractions(NUMBERS);
-
-        void copyFrom(State other) {
-            facts = other.facts;
-            numbers.copyAll(other.numbers);
-        }
-
-        boolean hasFacts(int wantedTrue, int wantedFalse) {
-            return (facts & wantedTrue) == wantedTrue && (facts & wantedFalse) == 0;
-        }
-
-        boolean isSo(int n, int how, Fractions with, int i) {
-            int order = numbers.order(n, with, i);
+        boolean isSo(int i, int how, Fractions with, int j) {
+            int order = orderTo(i, with, j);
             switch (how) {
                 case BELOW:
                     return order < 0;
@@ -480,21 +435,45 @@ public final class PlanJudge {
             }
         }
 
-        void alter(int n, int way, Fractions by, int i) {
-            switch (way) {
-                case BECOMES:
-                    numbers.copy(n, by, i);
-                    break;
-                case GROWS:
-                    numbers.add(n, by, i);
-                    break;
-                case SHRINKS:
-                    numbers.subtract(n, by, i);
-                    break;
-                default:
-                    numbers.multiply(n, by, i);
-                    break;
+        /** By whole parts, then by those of what is left, turned over: crosswise products could leave a long. */
+        int orderTo(int i, Fractions other, int j) {
+            long a = up[i];
+            long b = down[i];
+            long c = other.up[j];
+            long d = other.down[j];
+            int sign = 1;
+            for (int k = 0; k < EUCLID_ROUNDS && b > 0 && d > 0; k++) {
+                long x = Math.floorDiv(a, b);
+                long y = Math.floorDiv(c, d);
+                if (x != y) {
+                    return x < y ? -sign : sign;
+                }
+                long firstRest = a - x * b;
+                long secondRest = c - y * d;
+                if (firstRest == 0 || secondRest == 0) {
+                    return firstRest == secondRest ? 0 : firstRest == 0 ? -sign : sign;
+                }
+                a = b;
+                b = firstRest;
+                c = d;
+                d = secondRest;
+                sign = -sign;
             }
+            return 0;
+        }
+    }
+
+    private static final class State {
+        private int facts;
+        private final Fractions numbers = new Fractions(NUMBERS);
+
+        void copyFrom(State other) {
+            facts = other.facts;
+            numbers.copyAll(other.numbers);
+        }
+
+        boolean hasFacts(int wantedTrue, int wantedFalse) {
+            return (facts & wantedTrue) == wantedTrue && (facts & wantedFalse) == 0;
         }
     }
 
@@ -534,9 +513,9 @@ public final class PlanJudge {
         private final int[] makeTrue = new int[TIMES];
         private final int[] makeFalse = new int[TIMES];
         private final Terms alterations = new Terms(MOST_CHANGES);
-        private final int[] lookedAt = new int[TIMES];
         private final int[] changed = new int[TIMES];
-        private final int[] changedFirmly = new int[TIMES];
+        private final int[] seenAt = new int[TIMES];
+        private int measured;
         private final int[] durationNumber = new int[2];
         private final Fractions duration = new Fractions(2);
 
@@ -547,13 +526,13 @@ public final class PlanJudge {
         void needFact(int time, int f, boolean v) {
             int[] needed = v ? needTrue : needFalse;
             needed[time] |= factBit(f);
-            lookedAt[time] |= factBit(f);
+            seenAt[time] |= factBit(f);
             needs++;
         }
 
         void needNumber(int time, int n, int how, Fractions hand) {
             comparisons.tell(time, n, how, hand);
-            lookedAt[time] |= numberBit(n);
+            seenAt[time] |= numberBit(n);
             needs++;
         }
 
@@ -567,11 +546,9 @@ public final class PlanJudge {
         void changeNumber(int time, int n, int way, Fractions hand) {
             alterations.tell(time, n, way, hand);
             changed[time] |= numberBit(n);
+            // A number that becomes something isn't looked at, but any other change of it interferes all the same.
             if (way != GROWS && way != SHRINKS) {
-                changedFirmly[time] |= numberBit(n);
-            }
-            if (way == MULTIPLIES) {
-                lookedAt[time] |= numberBit(n);
+                seenAt[time] |= numberBit(n);
             }
             changes++;
         }
@@ -579,6 +556,10 @@ public final class PlanJudge {
         void boundDuration(int which, int n, Fractions hand) {
             durationNumber[which] = n;
             duration.copy(which, hand, AMOUNT);
+            measured = 0;
+            for (int number : durationNumber) {
+                measured |= number >= 0 ? numberBit(number) : 0;
+            }
         }
 
         boolean isMet(State state, int time) {
@@ -587,7 +568,7 @@ public final class PlanJudge {
             }
             for (int i = 0; i < comparisons.size; i++) {
                 if (comparisons.time[i] == time
-                        && !state.isSo(comparisons.number[i], comparisons.kind[i], comparisons.by, i)) {
+                        && !state.numbers.isSo(comparisons.number[i], comparisons.kind[i], comparisons.by, i)) {
                     return false;
                 }
             }
@@ -600,7 +581,7 @@ public final class PlanJudge {
             for (int i = 0; i < alterations.size; i++) {
                 if (alterations.time[i] == time) {
                     int n = alterations.number[i];
-                    state.alter(n, alterations.kind[i], alterations.by, i);
+                    state.numbers.alter(n, alterations.kind[i], alterations.by, i);
                     if (state.numbers.isTooLong(n)) {
                         return false;
                     }
@@ -615,30 +596,21 @@ public final class PlanJudge {
             if (n == UNBOUNDED) {
                 return false;
             }
-            bounds.copy(i, duration, which);
-            if (n >= 0) {
-                bounds.multiply(i, state.numbers, n);
+            if (n == PLAIN) {
+                bounds.copy(i, duration, which);
+            } else {
+                bounds.put(i, duration.up[which] * state.numbers.up[n], duration.down[which] * state.numbers.down[n]);
             }
             return true;
         }
 
         boolean interferes(int time, Action other, int otherTime) {
-            int seenHere = looksAt(time) | changedFirmly[time];
-            int seenThere = other.looksAt(otherTime) | other.changedFirmly[otherTime];
+            int seenHere = seenAt[time] | (time == START ? measured : 0);
+            int seenThere = other.seenAt[otherTime] | (otherTime == START ? other.measured : 0);
             return (changed[time] & seenThere
                     | other.changed[otherTime] & seenHere
                     | makeTrue[time] & other.makeFalse[otherTime]
                     | makeFalse[time] & other.makeTrue[otherTime]) != 0;
-        }
-
-        private int looksAt(int time) {
-            int seen = lookedAt[time];
-            if (time == START) {
-                for (int n : durationNumber) {
-                    seen |= n >= 0 ? numberBit(n) : 0;
-                }
-            }
-            return seen;
         }
     }
 
@@ -667,7 +639,7 @@ public final class PlanJudge {
                 return false;
             }
             for (int n = 0; n < NUMBERS; n++) {
-                if (goalHow[n] != NONE && !state.isSo(n, goalHow[n], goalWith, n)) {
+                if (goalHow[n] != NONE && !state.numbers.isSo(n, goalHow[n], goalWith, n)) {
                     return false;
                 }
             }
@@ -747,7 +719,7 @@ public final class PlanJudge {
             int from = 0;
             while (from < points) {
                 int to = from + 1;
-                while (to < points && times.order(order[to], times, order[from]) == 0) {
+                while (to < points && times.orderTo(order[to], times, order[from]) == 0) {
                     to++;
                 }
                 int fault = faultAmong(task, plan, from, to);
@@ -765,10 +737,10 @@ public final class PlanJudge {
             for (int point = 0; point < 2 * plan.steps; point++) {
                 times.copy(point, plan.begins, point / 2);
                 if (isEnd(point)) {
-                    times.add(point, plan.lasts, point / 2);
+                    times.alter(point, GROWS, plan.lasts, point / 2);
                 }
                 int place = point;
-                while (place > 0 && times.order(point, times, order[place - 1]) < 0) {
+                while (place > 0 && times.orderTo(point, times, order[place - 1]) < 0) {
                     order[place] = order[place - 1];
                     place--;
                 }
@@ -816,8 +788,8 @@ public final class PlanJudge {
                 return false;
             }
             scratch.copy(0, times, point);
-            scratch.subtract(0, times, earlier);
-            return scratch.order(0, task.epsilon, 0) < 0;
+            scratch.alter(0, SHRINKS, times, earlier);
+            return scratch.orderTo(0, task.epsilon, 0) < 0;
         }
 
         private int findUnmetNeed(Task task, Plan plan, int from, int to) {
@@ -840,10 +812,10 @@ public final class PlanJudge {
 
         private boolean isDurationRight(Task task, Plan plan, int step) {
             Action done = actionAt(task, plan, 2 * step);
-            if (done.writeBound(LEAST, now, scratch, 0) && plan.lasts.order(step, scratch, 0) < 0) {
+            if (done.writeBound(LEAST, now, scratch, 0) && plan.lasts.orderTo(step, scratch, 0) < 0) {
                 return false;
             }
-            return !done.writeBound(GREATEST, now, scratch, 0) || plan.lasts.order(step, scratch, 0) <= 0;
+            return !done.writeBound(GREATEST, now, scratch, 0) || plan.lasts.orderTo(step, scratch, 0) <= 0;
         }
 
         /** Into the next state, so that the state now stands if a number becomes too long. */
@@ -889,6 +861,7 @@ public final class PlanJudge {
         private final long[] leastUnits = new long[MOST_STEPS];
         private final long[] greatestUnits = new long[MOST_STEPS];
         private long unit;
+        private final Fractions shared = new Fractions(1);
         private int faultPoint;
 
         Arranger() {
@@ -1014,7 +987,7 @@ public final class PlanJudge {
         private void writeBounds(Task task, Action done, int step) {
             State before = states[points];
             boolean hasLeast = done.writeBound(LEAST, before, least, step);
-            if (!hasLeast || least.order(step, task.epsilon, 0) < 0) {
+            if (!hasLeast || least.orderTo(step, task.epsilon, 0) < 0) {
                 least.copy(step, task.epsilon, 0);
             }
             hasGreatest[step] = done.writeBound(GREATEST, before, greatest, step);
@@ -1042,8 +1015,9 @@ public final class PlanJudge {
         }
 
         private boolean refineUnit(Fractions bounds, int i) {
-            long divisor = Fractions.greatestDivisor(bounds.down[i], unit);
-            unit *= divisor > 1 ? bounds.down[i] / divisor : bounds.down[i];
+            // In lowest terms the unit has lost what it shares with the denominator.
+            shared.put(0, unit, bounds.down[i]);
+            unit = shared.up[0] * bounds.down[i];
             return unit <= FINEST_UNIT && !bounds.isAbove(i, WIDEST_BOUND);
         }
 
@@ -1053,7 +1027,7 @@ public final class PlanJudge {
 
         private boolean findTimes(Task task) {
             for (int s = 0; s < begunSteps; s++) {
-                if (hasGreatest[s] && greatest.order(s, least, s) < 0) {
+                if (hasGreatest[s] && greatest.orderTo(s, least, s) < 0) {
                     return false;
                 }
                 leastUnits[s] = inUnits(least, s);

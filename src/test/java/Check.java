@@ -22,6 +22,17 @@ final class Check {
         same(what, got ? 1 : 0, 1);
     }
 
+    void fraction(PlanJudge x, int what, int i, long up, long down) {
+        same("above(" + what + ", " + i + ")", x.above(what, i), up);
+        same("below(" + what + ", " + i + ")", x.below(what, i), down);
+    }
+
+    void fault(String what, PlanJudge x, int got, int fault, int point) {
+        same(what, got, fault);
+        same(what + ": count(0)", x.count(0), fault);
+        same(what + ": count(1)", x.count(1), point);
+    }
+
     void throwsNothing(String what, Call call) {
         checkThrown(what, call, "nothing");
     }
