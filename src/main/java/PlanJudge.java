@@ -1035,18 +1035,17 @@ public final class PlanJudge {
             }
             Arrays.fill(times, 0L);
             long epsilonUnits = inUnits(task.epsilon, 0);
-            // A chain of constraints goes back at most once a step: who still moves then moves for ever.
-            for (int round = 0; round < begunSteps + 2; round++) {
-                boolean moves = delayPoints(epsilonUnits);
-                if (!delayStarts() && !moves) {
+            // A chain of constraints goes back over each step once at the most: what still moves then moves for ever.
+            for (int round = 0; round <= begunSteps; round++) {
+                delayPoints(epsilonUnits);
+                if (!delayStarts()) {
                     return true;
                 }
             }
             return false;
         }
 
-        private boolean delayPoints(long epsilonUnits) {
-            boolean moves = false;
+        private void delayPoints(long epsilonUnits) {
             for (int k = 0; k < points; k++) {
                 long earliest = k > 0 ? times[k - 1] : 0;
                 if (latestInterfering[k] != NONE) {
@@ -1056,14 +1055,11 @@ public final class PlanJudge {
                     int step = row[k] / 2;
                     earliest = Math.max(earliest, times[startAt[step]] + leastUnits[step]);
                 }
-                if (earliest > times[k]) {
-                    times[k] = earliest;
-                    moves = true;
-                }
+                times[k] = Math.max(earliest, times[k]);
             }
-            return moves;
         }
 
+        /** Whether a start had to be delayed, so that what comes behind it is open again. */
         private boolean delayStarts() {
             boolean moves = false;
             for (int k = 0; k < points; k++) {

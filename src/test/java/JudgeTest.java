@@ -10,6 +10,7 @@ final class JudgeTest {
         interferenceOfFacts();
         interferenceOfNumbers();
         interferenceOfDurations();
+        interferenceAmongMany();
         nearnessOfPoints();
         lowestInterferingPoint();
         needs();
@@ -133,31 +134,94 @@ final class JudgeTest {
 
     private static void interferenceOfDurations() {
         check.part("promise 17, fault 1, durations");
-        for (int which = 0; which <= 1; which++) {
-            PlanJudge x = actions(2);
-            x.amount(2, 1);
-            x.number(5);
-            x.amount(1, 1);
-            x.last(1, which, 5);
-            change(x, 0, 0, 5, 1, 0);
-            bothStart("the number of a duration, which " + which, x, true);
-            x.clear();
-            x.last(1, which, -2);
-            bothStart("no duration any more", x, false);
-            x.clear();
-            x.amount(2, 1);
-            x.last(1, which, -1);
-            bothStart("a duration of no number", x, false);
-            PlanJudge y = actions(2);
-            y.amount(2, 1);
-            y.number(5);
-            y.amount(1, 1);
-            y.last(1, which, 5);
-            change(y, 0, 2, 5, 1, 0);
-            step(y, 0, 0, 2);
-            step(y, 1, 0, 2);
-            check.fault("an end does not look at durations", y, y.judge(), 0, -1);
+        for (int n = 0; n < 8; n += 7) {
+            for (int which = 0; which <= 1; which++) {
+                interferenceOfDuration(which, n);
+            }
         }
+        PlanJudge both = actions(2);
+        both.last(1, 0, 3);
+        both.last(1, 1, -2);
+        change(both, 0, 0, 3, 1, 0);
+        bothStart("a least duration, and no greatest one", both, true);
+    }
+
+    private static void interferenceOfDuration(int which, int n) {
+        PlanJudge x = actions(2);
+        x.amount(2, 1);
+        x.number(n);
+        x.amount(1, 1);
+        x.last(1, which, n);
+        change(x, 0, 0, n, 1, 0);
+        bothStart("number " + n + " of a duration, which " + which, x, true);
+        x.clear();
+        x.last(1, which, -2);
+        bothStart("no duration any more", x, false);
+        x.clear();
+        x.amount(2, 1);
+        x.last(1, which, -1);
+        bothStart("a duration of no number", x, false);
+        PlanJudge y = actions(2);
+        y.amount(2, 1);
+        y.number(n);
+        y.amount(1, 1);
+        y.last(1, which, n);
+        change(y, 0, 2, n, 1, 0);
+        step(y, 0, 0, 2);
+        step(y, 1, 0, 2);
+        check.fault("an end does not look at durations", y, y.judge(), 0, -1);
+    }
+
+    private static void interferenceAmongMany() {
+        check.part("promise 17, fault 1, one of many");
+        for (int f = 0; f < 16; f++) {
+            for (int n = 0; n < 8; n++) {
+                PlanJudge x = actions(2);
+                x.make(0, 0, f, true);
+                x.compare(1, 0, n, 2);
+                x.change(1, 0, n, 0);
+                bothStart("fact " + f + " and number " + n, x, false);
+            }
+        }
+        for (int i = 0; i < 3; i++) {
+            PlanJudge needs = actions(2);
+            needs.need(0, 0, 3, false);
+            needs.need(0, 0, 4, false);
+            needs.compare(0, 0, 5, 2);
+            needs.compare(0, 0, 6, 2);
+            if (i < 2) {
+                needs.make(1, 0, 3 + i, false);
+            } else {
+                change(needs, 1, 0, 5, 1, 1);
+            }
+            bothStart("need " + i, needs, true);
+            PlanJudge changes = actions(2);
+            changes.change(0, 0, 1, 3);
+            changes.make(0, 0, 1, true);
+            changes.make(0, 0, 2, true);
+            changes.change(0, 0, 2, 0);
+            if (i < 2) {
+                changes.need(1, 0, 1 + i, false);
+            } else {
+                change(changes, 1, 0, 1, 1, 1);
+            }
+            bothStart("change " + i, changes, true);
+            PlanJudge mixed = actions(2);
+            mixed.need(0, 0, 3, false);
+            mixed.compare(0, 0, 5, 2);
+            change(mixed, 0, 0, 4, 3, 1);
+            if (i == 0) {
+                mixed.make(1, 0, 3, true);
+            } else {
+                change(mixed, 1, 0, 3 + i, 2, 1);
+            }
+            bothStart("need or change " + i, mixed, true);
+        }
+        PlanJudge numbers = actions(2);
+        change(numbers, 0, 0, 0, 1, 1);
+        change(numbers, 0, 0, 1, 1, 1);
+        numbers.compare(1, 0, 0, 0);
+        bothStart("the first one of two numbers that change", numbers, true);
     }
 
     private static PlanJudge startsApart(int[] apart, int[] epsilon) {
@@ -250,6 +314,15 @@ final class JudgeTest {
         z.need(0, 2, 3, true);
         step(z, 0, 1, 1);
         check.fault("a start's change before the end's need", z, z.judge(), 0, -1);
+        z.need(0, 0, 3, false);
+        check.fault("a start's need is over then", z, z.judge(), 0, -1);
+        z.need(0, 0, 4, true);
+        z.need(0, 0, 5, true);
+        z.fact(5, true);
+        check.fault("one of several needs", z, z.judge(), 2, 0);
+        z.fact(4, true);
+        z.fact(5, false);
+        check.fault("another one of them", z, z.judge(), 2, 0);
     }
 
     private static void durations() {
@@ -275,6 +348,12 @@ final class JudgeTest {
         step(x, 1, 8, 1);
         step(x, 0, new int[] {5, 1}, new int[] {3, 1});
         check.fault("what comes later doesn't count", x, x.judge(), 0, -1);
+        x.clear();
+        step(x, 1, 0, 1);
+        step(x, 0, 2, 3);
+        step(x, 1, 3, 1);
+        step(x, 1, 5, 2);
+        check.fault("nor does it while the step lasts", x, x.judge(), 0, -1);
         PlanJudge y = actions(1);
         y.amount(1, 2);
         y.last(0, 0, -1);
