@@ -24,9 +24,7 @@ final class ActionTest {
     }
 
     private static PlanJudge oneAction() {
-        PlanJudge x = new PlanJudge();
-        x.action();
-        return x;
+        return Check.objectWith(1, 0);
     }
 
     /** A step of action 0 from 0 to 2. */

@@ -27,12 +27,7 @@ final class ArrangeTest {
     }
 
     private static PlanJudge actions(int size) {
-        PlanJudge x = new PlanJudge();
-        for (int a = 0; a < size; a++) {
-            x.action();
-        }
-        x.amount(1, 1);
-        return x;
+        return Check.objectWith(size, 1);
     }
 
     /** Steps of these actions, from 77 on for 66. */
@@ -383,7 +378,7 @@ final class ArrangeTest {
         check.fault("denominators 1000, 352 and 625", x, x.arrange(), 8, -1);
         x.amount(1, 625);
         x.number(2);
-        x.amount(1, 5);
+        x.amount(4, 5);
         x.last(1, 0, 2);
         x.last(1, 1, -2);
         bound(x, 0, 0, 1, 32);

@@ -7,6 +7,16 @@ final class Check {
         void run();
     }
 
+    /** An object with so many actions that are told nothing, and with this AMOUNT. */
+    static PlanJudge objectWith(int actions, int amount) {
+        PlanJudge x = new PlanJudge();
+        for (int a = 0; a < actions; a++) {
+            x.action();
+        }
+        x.amount(amount, 1);
+        return x;
+    }
+
     void part(String name) {
         part = name;
     }

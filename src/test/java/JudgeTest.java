@@ -27,11 +27,7 @@ final class JudgeTest {
     }
 
     private static PlanJudge actions(int size) {
-        PlanJudge x = new PlanJudge();
-        for (int a = 0; a < size; a++) {
-            x.action();
-        }
-        return x;
+        return Check.objectWith(size, 0);
     }
 
     /** From p / q on for up / down. */

@@ -19,12 +19,7 @@ final class PlanTest {
     }
 
     private static PlanJudge actions(int size) {
-        PlanJudge x = new PlanJudge();
-        for (int a = 0; a < size; a++) {
-            x.action();
-        }
-        x.amount(1, 1);
-        return x;
+        return Check.objectWith(size, 1);
     }
 
     private static PlanJudge steps(int size) {

@@ -23,12 +23,7 @@ final class SeekTest {
     }
 
     private static PlanJudge actions(int size) {
-        PlanJudge x = new PlanJudge();
-        for (int a = 0; a < size; a++) {
-            x.action();
-        }
-        x.amount(1, 1);
-        return x;
+        return Check.objectWith(size, 1);
     }
 
     private static void row(PlanJudge x, int... points) {
