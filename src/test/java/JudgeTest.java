@@ -371,13 +371,13 @@ final class JudgeTest {
         check.fault("the lowest one", z, z.judge(), 3, 2);
     }
 
-    /** Ten steps of some 9091 each within a long one: its duration and bound cannot be multiplied crosswise. */
+    /** Some steps of 900000/97 each within a long one: its duration and bound cannot be multiplied crosswise. */
     private static void hugeDurations() {
         check.part("promise 17, fault 3, long fractions");
         PlanJudge x = actions(3);
         x.amount(9, 1);
         x.number(1);
-        x.amount(100000, 99);
+        x.amount(100000, 97);
         x.last(1, 0, 1);
         step(x, 0, 0, 1);
         x.push(0);
@@ -390,8 +390,8 @@ final class JudgeTest {
         x.make(1, 0, 0, true);
         x.make(1, 2, 0, false);
         check.same("arrange()", x.arrange(), 0);
-        long unit = 99000;
-        long due = 10 * (9 * 100000L * 1000) + 9 * 99;
+        long unit = 97000;
+        long due = 10 * (9 * 100000L * 1000) + 9 * 97;
         check.same("the long step lasts", x.above(1, 0) * (unit / x.below(1, 0)), due);
         int[][] factors = {{99991, 997}, {9973, 991}, {1, 983}};
         x.amount(1, 1);
@@ -433,9 +433,8 @@ final class JudgeTest {
         }
         x.push(7);
         check.same("arrange()", x.arrange(), 0);
-        long duration = x.above(1, 3) / x.below(1, 3);
-        check.same("the long step lasts, whole", duration, 8 * 900000 / 99);
-        int factor = (int) (duration * 971230541L / 997210243L);
+        check.fraction(x, 1, 3, 8 * 900000000L + 7 * 97, 97000);
+        int factor = (int) (x.above(1, 3) * 971230541L / (997210243L * x.below(1, 3)));
         int[][] dues = {{factor, 0, 3}, {factor + 1, 3, 0}, {factor - 1, 0, 3}, {99989, 3, 0}, {-99989, 0, 3}};
         for (int[] due : dues) {
             x.amount(due[0], 1);
