@@ -1,3 +1,5 @@
+import java.util.List;
+
 /** Counts and prints the answers that are not as due; each test ends with close(). */
 final class Check {
     private int wrong;
@@ -44,22 +46,22 @@ final class Check {
     }
 
     void throwsNothing(String what, Call call) {
-        checkThrown(what, call, "nothing");
+        throwsDue(what, call, "nothing");
     }
 
     void throwsIndex(String what, Call call) {
-        checkThrown(what, call, "IndexOutOfBoundsException");
+        throwsDue(what, call, "IndexOutOfBoundsException");
     }
 
     void throwsArgument(String what, Call call) {
-        checkThrown(what, call, "IllegalArgumentException");
+        throwsDue(what, call, "IllegalArgumentException");
     }
 
     void throwsState(String what, Call call) {
-        checkThrown(what, call, "IllegalStateException");
+        throwsDue(what, call, "IllegalStateException");
     }
 
-    private void checkThrown(String what, Call call, String due) {
+    void throwsDue(String what, Call call, String due) {
         String thrown = "nothing";
         try {
             call.run();
@@ -69,6 +71,19 @@ final class Check {
         if (!thrown.equals(due)) {
             wrong++;
             System.out.println(part + ": " + what + " throws " + thrown + ", due is " + due);
+        }
+    }
+
+    /** Tells the first answer that differs. */
+    void alike(String what, List<String> got, List<String> due) {
+        int k = 0;
+        while (k < got.size() && k < due.size() && got.get(k).equals(due.get(k))) {
+            k++;
+        }
+        if (k < got.size() || k < due.size()) {
+            wrong++;
+            System.out.println(part + ": " + what + ", call " + k + ": " + got.subList(k, Math.min(k + 1, got.size()))
+                    + ", due is " + due.subList(k, Math.min(k + 1, due.size())));
         }
     }
 
