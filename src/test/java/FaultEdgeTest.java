@@ -10,7 +10,9 @@ final class FaultEdgeTest {
     public static void main(String[] args) {
         interference();
         interferenceInARow();
+        plainDurationsAndFacts();
         lessThanEpsilonEarlier();
+        exactTimes();
         stateSoFar();
         durationByTheStateSoFar();
         longestNumbers();
@@ -30,10 +32,12 @@ final class FaultEdgeTest {
         notEarlierAndEpsilonLater();
         withinTheBounds();
         noTimes();
+        farBelowNought();
         atMostSoManyEvents();
         fewestEvents();
         eventByEvent();
         soughtInOrderOfBeginning();
+        soughtAndArranged();
         planAndRowStay();
         check.close();
     }
@@ -172,6 +176,23 @@ final class FaultEdgeTest {
         }
     }
 
+    private static void plainDurationsAndFacts() {
+        check.part("a start also at the numbers of its action's durations: at no fact, and at no other number");
+        for (int f = 0; f < 16; f++) {
+            for (int n = -2; n < 8; n++) {
+                PlanJudge x = actions(2);
+                x.amount(9, 1);
+                x.number(Math.max(0, n));
+                x.last(0, 1, n);
+                x.make(1, 0, f, true);
+                x.change(1, 0, (Math.max(0, n) + 1) % 8, 1);
+                step(x, 0, 0, 1);
+                step(x, 1, 0, 1);
+                check.fault("fact " + f + " and duration by " + n, x, x.judge(), 0, -1);
+            }
+        }
+    }
+
     private static PlanJudge apart(int epsilonDown, int firstDown, int secondDown, boolean laterIsLower) {
         PlanJudge x = actions(2);
         x.make(0, 0, 0, true);
@@ -202,6 +223,25 @@ final class FaultEdgeTest {
             check.fault("1/870 earlier, EPSILON 1/870", just, just.judge(), 0, -1);
             PlanJudge farther = apart(871, 30, 29, laterIsLower);
             check.fault("1/870 earlier, EPSILON 1/871", farther, farther.judge(), 0, -1);
+        }
+    }
+
+    /** Steps 0 and 1 end 1/987038973000 apart, or at the same time; their ends interfere. */
+    private static void exactTimes() {
+        check.part("fault 1: the times are exact fractions");
+        int[] earlier = {98343, 997, 99061, 991};
+        int[] later = {99037, 1000, 99463, 999};
+        int[][][] pairs = {{earlier, later, {3}}, {later, earlier, {1}}, {later, later, {1}}, {earlier, earlier, {1}}};
+        for (int[][] pair : pairs) {
+            PlanJudge x = actions(2);
+            x.make(0, 2, 0, true);
+            x.make(1, 2, 0, false);
+            for (int s = 0; s < 2; s++) {
+                x.moment(pair[s][0], pair[s][1]);
+                x.amount(pair[s][2], pair[s][3]);
+                x.step(s);
+            }
+            check.fault("ends of " + pair[0][0] + " and " + pair[1][0], x, x.judge(), 1, pair[2][0]);
         }
     }
 
@@ -745,6 +785,38 @@ final class FaultEdgeTest {
         }
     }
 
+    /** In units of 1/100000 such a bound is below what a long can hold. */
+    private static void farBelowNought() {
+        check.part("fault 7: a greatest duration of -10^14, in the finest unit");
+        PlanJudge x = actions(3);
+        x.amount(-100000, 1);
+        x.number(0);
+        change(x, 0, 0, 0, 3, 10000, 1);
+        bound(x, 0, 0, 1, 32);
+        x.amount(1, 625);
+        x.number(3);
+        x.amount(4, 5);
+        x.last(1, 0, 3);
+        row(x, new int[] {0, 1, 2}, 0, 1, 2, 3, 4, 5);
+        check.fault("no greatest one", x, x.arrange(), 0, -1);
+        for (int p : new int[] {100000, 99999, 50000, 1}) {
+            x.amount(p, 1);
+            x.last(2, 1, 0);
+            check.fault("-10^9 times " + p, x, x.arrange(), 7, -1);
+            x.amount(-p, 1);
+            x.last(2, 1, 0);
+            check.fault("-10^9 times " + -p, x, x.arrange(), 8, -1);
+            x.amount(-p, 1);
+            x.last(2, 1, -2);
+            x.last(2, 0, 0);
+            check.fault("a least one of -10^9 times " + -p, x, x.arrange(), 8, -1);
+            x.amount(p, 1);
+            x.last(2, 0, 0);
+            check.fault("a least one of -10^9 times " + p, x, x.arrange(), 0, -1);
+            x.last(2, 0, -2);
+        }
+    }
+
     private static void atMostSoManyEvents() {
         check.part("promise 21: at most so many events (0 .. 6): how many it has; -1 if there is none");
         for (int steps = 0; steps <= 4; steps++) {
@@ -841,6 +913,33 @@ final class FaultEdgeTest {
         }
         x.need(0, 2, 5, true);
         check.same("seek(6) with a step that can't end", x.seek(6), -1);
+    }
+
+    private static void soughtAndArranged() {
+        check.part("promise 21: it becomes the row, and its steps, arranged, the plan");
+        PlanJudge x = actions(2);
+        bound(x, 0, 0, 7, 2);
+        x.make(0, 2, 0, true);
+        x.need(1, 0, 0, true);
+        x.make(1, 0, 1, true);
+        bound(x, 1, 0, 1, 6);
+        x.wish(1, 1);
+        for (int s = 0; s < 12; s++) {
+            step(x, 1, s, 50);
+            x.push(2 * s);
+            x.push(2 * s + 1);
+        }
+        check.same("seek(6)", x.seek(6), 4);
+        check.same("steps", x.count(3), 2);
+        rowIs(x, 0, 1, 2, 3);
+        check.same("done(0)", x.done(0), 0);
+        check.fraction(x, 0, 0, 0, 1);
+        check.fraction(x, 1, 0, 7, 2);
+        check.fraction(x, 0, 1, 3501, 1000);
+        check.fraction(x, 1, 1, 1, 6);
+        check.same("judge()", x.judge(), 0);
+        check.same("arrange()", x.arrange(), 0);
+        check.same("step(0) behind them", x.step(0), 2);
     }
 
     private static void planAndRowStay() {

@@ -11,7 +11,7 @@ final class Probe {
         this.x = x;
     }
 
-    /** What it shows, its plan and row, the AMOUNT and the MOMENT: some 300 calls. */
+    /** What it shows, its plan and row, the AMOUNT and the MOMENT. */
     static List<String> ofPlan(PlanJudge x) {
         Probe probe = new Probe(x);
         probe.askCounts();
@@ -20,6 +20,7 @@ final class Probe {
         probe.askState();
         probe.ask("judge()", x::judge);
         probe.askState();
+        probe.pushAll();
         probe.ask("arrange()", x::arrange);
         probe.askCounts();
         probe.askSteps();
@@ -27,22 +28,44 @@ final class Probe {
         return probe.answers;
     }
 
-    /** What its first state, its goal, EPSILON and its actions do: some 300 calls. */
-    static List<String> ofTask(PlanJudge x) {
+    /** What its first state, EPSILON and this action do, whatever the goal is. */
+    static List<String> ofAction(PlanJudge x, int a) {
         Probe probe = new Probe(x);
-        int actions = x.count(2);
+        probe.dropGoal();
         x.clear();
         probe.ask("judge()", x::judge);
         probe.askState();
-        for (int a = 0; a < actions; a += a == 0 && actions > 2 ? actions - 1 : 1) {
+        if (a >= 0 && a < x.count(2)) {
             probe.askAction(a);
-        }
-        x.clear();
-        probe.askGoal();
-        for (int a = 0; a < actions; a += a == 0 && actions > 2 ? actions - 1 : 1) {
+            for (int value = 0; value < 2; value++) {
+                probe.setFacts(value == 1);
+                probe.askAction(a);
+            }
             probe.askRoom(a);
         }
         probe.ask("action()", x::action);
+        return probe.answers;
+    }
+
+    /** Whether the goal is so, with numbers low and high, with no fact, each fact alone, and all of them. */
+    static List<String> ofGoal(PlanJudge x) {
+        Probe probe = new Probe(x);
+        x.clear();
+        for (int up : new int[] {-100000, 100000}) {
+            x.amount(up, 1);
+            for (int n = 0; n < 8; n++) {
+                x.number(n);
+            }
+            probe.setFacts(true);
+            probe.ask("judge() with all facts and numbers " + up, x::judge);
+            probe.setFacts(false);
+            probe.ask("judge() with no fact and numbers " + up, x::judge);
+            for (int f = 0; f < 16; f++) {
+                x.fact(f, true);
+                probe.ask("judge() with fact " + f + " and numbers " + up, x::judge);
+                x.fact(f, false);
+            }
+        }
         return probe.answers;
     }
 
@@ -82,6 +105,13 @@ final class Probe {
         ask("below(" + what + ", " + i + ")", () -> x.below(what, i));
     }
 
+    private void pushAll() {
+        for (int p = 0; p < 2 * x.count(3); p++) {
+            int point = p;
+            tell("push(" + p + ")", () -> x.push(point));
+        }
+    }
+
     private void askSteps() {
         for (int s = 0; s < x.count(3); s++) {
             int step = s;
@@ -112,6 +142,19 @@ final class Probe {
         askFraction(2, 7);
     }
 
+    private void dropGoal() {
+        for (int f = 0; f < 16; f++) {
+            x.wish(f, -1);
+            x.want(f / 2, -1);
+        }
+    }
+
+    private void setFacts(boolean value) {
+        for (int f = 0; f < 16; f++) {
+            x.fact(f, value);
+        }
+    }
+
     private void askAction(int a) {
         x.clear();
         x.moment(0, 1);
@@ -123,21 +166,6 @@ final class Probe {
         x.push(1);
         ask("arrange() of action " + a, x::arrange);
         askSteps();
-    }
-
-    private void askGoal() {
-        for (int times = 0; times < 2; times++) {
-            boolean value = times == 1;
-            for (int f = 0; f < 16; f++) {
-                x.fact(f, value);
-            }
-            ask("judge() with all facts " + value, x::judge);
-            x.amount(value ? 100000 : -100000, 1);
-            for (int n = 0; n < 8; n++) {
-                x.number(n);
-            }
-            ask("judge() with all numbers so", x::judge);
-        }
     }
 
     /** How many needs and changes more an action takes. */

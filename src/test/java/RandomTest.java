@@ -9,6 +9,8 @@ import java.util.Random;
 
 /** Promises 1 to 27: the same random runs of calls, from fixed seeds, on PlanJudge and on PlainJudge. */
 final class RandomTest {
+    /** What an object answers to later calls is free. */
+    private static final int MOST_CALLS = 512;
     private static final Map<String, Method> FAST = methods(PlanJudge.class);
     private static final Map<String, Method> PLAIN = methods(PlainJudge.class);
     private static final int[][] SMALL = {{1, 1}, {2, 1}, {3, 1}, {1, 2}, {1, 3}, {3, 2}, {5, 1}, {0, 1}, {-1, 1}, {4, 2}};
@@ -21,7 +23,9 @@ final class RandomTest {
     private final PlainJudge plain = new PlainJudge();
     private final List<String> calls = new ArrayList<>();
     private final int facts;
+    private final int firstFact;
     private final int numbers;
+    private final int firstNumber;
     private final int wildness;
     private final int[] answers;
     private boolean failed;
@@ -29,7 +33,9 @@ final class RandomTest {
     private RandomTest(long seed, int[] answers) {
         random = new Random(seed);
         facts = 1 + random.nextInt(4);
+        firstFact = random.nextInt(17 - facts);
         numbers = 1 + random.nextInt(3);
+        firstNumber = random.nextInt(9 - numbers);
         wildness = random.nextInt(3);
         this.answers = answers;
     }
@@ -78,8 +84,12 @@ final class RandomTest {
         }
     }
 
+    private boolean isOver() {
+        return failed || calls.size() >= MOST_CALLS;
+    }
+
     private String call(String name, Object... args) {
-        if (failed) {
+        if (isOver()) {
             return "";
         }
         String got = answer(fast, FAST, name, args);
@@ -106,13 +116,16 @@ final class RandomTest {
                 call("below", what, s);
             }
         }
-        for (int n = -1; n <= 8; n++) {
+        for (int n = firstNumber; n < firstNumber + numbers; n++) {
             call("above", 2, n);
             call("below", 2, n);
         }
-        for (int f = -1; f <= 16; f++) {
+        for (int f = firstFact; f < firstFact + facts; f++) {
             call("holds", f);
         }
+        call("above", 2, random.nextInt(10) - 1);
+        call("below", 2, random.nextInt(10) - 1);
+        call("holds", random.nextInt(18) - 1);
         call("above", random.nextInt(3) == 0 ? -1 : 3, random.nextInt(4) - 1);
         call("below", random.nextInt(3) == 0 ? -1 : 3, random.nextInt(4) - 1);
     }
@@ -128,7 +141,7 @@ final class RandomTest {
 
     /** Durations and interferences, but hardly a need: most plans and rows come to their end. */
     private void playTimes() {
-        for (int n = 0; n < numbers; n++) {
+        for (int n = firstNumber; n < firstNumber + numbers; n++) {
             takeAmount();
             call("number", n);
         }
@@ -142,7 +155,7 @@ final class RandomTest {
                 tellChange(a);
             }
         }
-        for (int i = 8; i > 0 && !failed; i--) {
+        for (int i = 8; i > 0 && !isOver(); i--) {
             call("clear");
             addSteps();
             answers[parse(call("judge"))]++;
@@ -164,24 +177,25 @@ final class RandomTest {
             call("action");
         }
         int links = 1 + random.nextInt(3);
-        for (int link = 0; link < links; link++) {
+        int firstLink = Math.min(firstFact, 16 - links);
+        for (int link = firstLink; link < firstLink + links; link++) {
             int a = random.nextInt(actions);
             call("make", a, 2 * random.nextInt(2), link, true);
-            if (link > 0) {
+            if (link > firstLink) {
                 call("need", a, random.nextInt(3), link - 1, true);
             }
             if (random.nextInt(3) == 0) {
-                call("make", a, 2, random.nextInt(link + 1), false);
+                call("make", a, 2, firstLink + random.nextInt(link - firstLink + 1), false);
             }
         }
         for (int i = random.nextInt(5); i > 0; i--) {
             tellAction(random.nextInt(actions));
         }
-        call("wish", links - 1, 1);
+        call("wish", firstLink + links - 1, 1);
         for (int i = random.nextInt(2); i > 0; i--) {
             tellGoal();
         }
-        for (int i = 3; i > 0 && !failed; i--) {
+        for (int i = 3; i > 0 && !isOver(); i--) {
             int got = parse(call("seek", random.nextInt(4) == 0 ? random.nextInt(7) : 6));
             answers[21 + got]++;
             look();
@@ -207,7 +221,7 @@ final class RandomTest {
             tellGoal();
         }
         look();
-        for (int i = 12 + random.nextInt(12); i > 0 && !failed; i--) {
+        for (int i = 12 + random.nextInt(12); i > 0 && !isOver(); i--) {
             oneThing();
         }
     }
@@ -288,11 +302,11 @@ final class RandomTest {
     }
 
     private int factOrNone() {
-        return random.nextInt(40) == 0 ? (random.nextBoolean() ? 16 : -1) : random.nextInt(facts);
+        return random.nextInt(40) == 0 ? (random.nextBoolean() ? 16 : -1) : firstFact + random.nextInt(facts);
     }
 
     private int numberOrNone() {
-        return random.nextInt(40) == 0 ? (random.nextBoolean() ? 8 : -1) : random.nextInt(numbers);
+        return random.nextInt(40) == 0 ? (random.nextBoolean() ? 8 : -1) : firstNumber + random.nextInt(numbers);
     }
 
     private void tellFirst() {
@@ -341,8 +355,9 @@ final class RandomTest {
 
     private void tellDuration(int a) {
         takeAmount();
+        int n = random.nextInt(numbers + 2) - 2;
         call("last", a, random.nextInt(random.nextInt(20) == 0 ? 3 : 2),
-                random.nextInt(20) == 0 ? -3 : random.nextInt(numbers + 2) - 2);
+                random.nextInt(20) == 0 ? -3 : n < 0 ? n : firstNumber + n);
     }
 
     private void addSteps() {
@@ -355,12 +370,12 @@ final class RandomTest {
 
     private void pushAll() {
         if (random.nextInt(4) == 0) {
-            while (plain.count(4) > 0 && !failed) {
+            while (plain.count(4) > 0 && !isOver()) {
                 call("pop");
             }
         }
         int points = 2 * plain.count(3);
-        for (int tries = 0; tries < 60 * points && plain.count(4) < points && !failed; tries++) {
+        for (int tries = 0; tries < 60 * points && plain.count(4) < points && !isOver(); tries++) {
             int point = random.nextInt(points);
             boolean wrong = random.nextInt(200) == 0;
             if (wrong || isOpenTo(point)) {

@@ -105,16 +105,24 @@ final class RefusalTest {
     }
 
     private static void refuses(Consumer<PlanJudge> story, String due, String what, Consumer<PlanJudge> call) {
-        for (int half = 0; half < 2; half++) {
+        for (int part = 0; part < 4; part++) {
             PlanJudge one = new PlanJudge();
             PlanJudge other = new PlanJudge();
             story.accept(one);
             story.accept(other);
             check.throwsDue(what, () -> call.accept(one), due);
-            List<String> got = half == 0 ? Probe.ofPlan(one) : Probe.ofTask(one);
-            List<String> wanted = half == 0 ? Probe.ofPlan(other) : Probe.ofTask(other);
-            check.alike("after the refused " + what, got, wanted);
+            check.alike("after the refused " + what, probe(part, one), probe(part, other));
         }
+    }
+
+    /** In parts, as an object is used for 512 calls at most. */
+    private static List<String> probe(int part, PlanJudge x) {
+        return switch (part) {
+            case 0 -> Probe.ofPlan(x);
+            case 1 -> Probe.ofGoal(x);
+            case 2 -> Probe.ofAction(x, 0);
+            default -> Probe.ofAction(x, x.count(2) - 1);
+        };
     }
 
     private static void refusesAnywhere(String due, String what, Consumer<PlanJudge> call) {
@@ -374,6 +382,7 @@ final class RefusalTest {
                 int w = which;
                 check.part("promise 14: there is no such number");
                 refusesWithActions(INDEX, "last(0, " + w + ", " + n + ")", x -> x.last(0, w, n));
+                refusesWithActions(INDEX, "last(1, " + w + ", " + n + ")", x -> x.last(1, w, n));
             }
             check.part("promise 14: no such number goes ahead of another which");
             refusesWithActions(INDEX, "last(0, 2, " + n + ")", x -> x.last(0, 2, n));
@@ -383,6 +392,7 @@ final class RefusalTest {
             check.part("promise 14: which is neither 0 nor 1");
             for (int n : new int[] {-2, -1, 0, 7}) {
                 refusesWithActions(ARGUMENT, "last(0, " + which + ", " + n + ")", x -> x.last(0, which, n));
+                refusesWithActions(ARGUMENT, "last(1, " + which + ", " + n + ")", x -> x.last(1, which, n));
             }
         }
     }

@@ -12,14 +12,19 @@ final class RoomTest {
     }
 
     public static void main(String[] args) {
-        PlanJudge x = busyObject();
-        work(x);
+        PlanJudge[] objects = new PlanJudge[8];
+        for (int i = 0; i < objects.length; i++) {
+            objects[i] = busyObject();
+        }
+        work(busyObject());
         long before = used();
-        for (int i = 0; i < 40; i++) {
-            work(x);
+        for (PlanJudge x : objects) {
+            for (int i = 0; i < 6; i++) {
+                work(x);
+            }
         }
         long taken = used() - before;
-        check.so("40 times 70 calls took " + taken + " bytes", taken < SLACK);
+        check.so("48 times 68 calls took " + taken + " bytes", taken < SLACK);
         before = used();
         busyObject();
         taken = used() - before;
