@@ -504,6 +504,7 @@ final class FaultEdgeTest {
             int due = fault == 1 ? 0 : fault == 3 ? 0 : fault;
             check.fault("arrange()", x, x.arrange(), due, due == 0 || due == 6 ? -1 : 4);
             check.same("facts of arrange()", factsOf(x), due == 0 || due == 6 ? 15 : due == 5 ? 7 : 3);
+            check.so("step 3 begins at 3 with a fault alone", (x.above(0, 3) == 3 * x.below(0, 3)) == (due != 0));
         }
     }
 

@@ -590,6 +590,9 @@ final class LimitTest {
             check.same("pop()", x.pop(), 2 * s + 1);
             check.same("pop()", x.pop(), 2 * s);
             check.same("at(" + (22 - 2 * s) + ")", x.at(22 - 2 * s), -1);
+            for (int k = 0; k < 22 - 2 * s; k++) {
+                check.same("at(" + k + ") stays", x.at(k), 22 - 2 * (k / 2) + k % 2);
+            }
         }
         check.same("pop()", x.pop(), -1);
     }
