@@ -1,6 +1,6 @@
 /**
  * The limits of promises 1 to 16, 18, 19 and 22 to 27: what is allowed last, what is empty and what is full.
- * What is refused first stands in RefusalTest, the limits of the faults and of seeking in FaultEdgeTest.
+ * What is refused first stands in RefusalTest, the limits of the faults in JudgeEdgeTest and ArrangeEdgeTest.
  */
 final class LimitTest {
     private static final Check check = new Check();
